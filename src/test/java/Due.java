@@ -1,0 +1,78 @@
+/** What the tests share: answers that are due, and texts fed to a tape. */
+final class Due {
+    private int wrong = 0;
+    private int asked = 0;
+    private String promise = "";
+
+    void promise(String name) {
+        promise = name;
+    }
+
+    void is(String call, long got, long want) {
+        asked++;
+        if (got != want) {
+            wrong++;
+            System.out.println(promise + ": " + call + " answered " + got + ", due is " + want);
+        }
+    }
+
+    void is(String call, boolean got, boolean want) {
+        is(call, got ? 1 : 0, want ? 1 : 0);
+    }
+
+    /** Ends the test. */
+    void tell() {
+        System.out.println(asked + " answers, " + wrong + " not as due");
+        if (wrong != 0 || asked == 0) {
+            System.exit(1);
+        }
+    }
+
+    /** Feeds the bytes of a text (signs 0 to 255), filled up with zeros to twenties. */
+    static void text(IdleCrimes x, String text) {
+        int[] bytes = new int[text.length()];
+        for (int i = 0; i < bytes.length; i++) {
+            bytes[i] = text.charAt(i);
+        }
+        bytes(x, bytes);
+    }
+
+    static void bytes(IdleCrimes x, int... bytes) {
+        for (int from = 0; from < bytes.length; from += 20) {
+            int[] five = fives(bytes, from);
+            x.feed(five[0], five[1], five[2], five[3], five[4]);
+        }
+    }
+
+    static int[] fives(int[] bytes, int from) {
+        int[] five = new int[5];
+        for (int i = 0; i < 20; i++) {
+            int value = from + i < bytes.length ? bytes[from + i] & 255 : 0;
+            five[i / 4] |= value << 24 - 8 * (i % 4);
+        }
+        return five;
+    }
+
+    static int law(IdleCrimes x, String text) {
+        text(x, text);
+        return x.law(text.length());
+    }
+
+    static int beat(IdleCrimes x, int c, String text) {
+        text(x, text);
+        return x.beat(c, text.length());
+    }
+
+    static int pleas(IdleCrimes x, String text) {
+        text(x, text);
+        return x.pleas(text.length());
+    }
+
+    static String times(int n, String text, String between) {
+        StringBuilder all = new StringBuilder();
+        for (int i = 0; i < n; i++) {
+            all.append(i == 0 ? "" : between).append(text);
+        }
+        return all.toString();
+    }
+}
