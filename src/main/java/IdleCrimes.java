@@ -1649,20 +1649,19 @@ public final class IdleCrimes {
                 goOn(borough);
                 settle();
             }
-            int best = 1 << p;
+            int best = NONE;
+            int most = NONE;
             for (int i = 0; i < size; i++) {
                 int bits = at(visited, i);
-                if ((at(ends, bits) & borough.around(p)) != 0 && isBetter(bits, best, temptation)) {
+                boolean goesHome = (at(ends, bits) & borough.around(p)) != 0;
+                int sum = goesHome ? sumOf(temptation, bits) : NONE;
+                if (goesHome && (sum > most || sum == most && bits < best)) {
                     best = bits;
+                    most = sum;
                 }
                 put(ends, bits, 0);
             }
             return best;
-        }
-
-        private static boolean isBetter(int bits, int best, int[] temptation) {
-            int more = sumOf(temptation, bits) - sumOf(temptation, best);
-            return more > 0 || more == 0 && bits < best;
         }
 
         private void goOn(Borough borough) {

@@ -312,6 +312,15 @@ public final class HoursTest {
         due.is("tried(241, 0)", x.tried(241, 0), -1);
         due.is("tried(240, 11)", x.tried(240, 11), 0);
         due.is("tried(240, 31)", x.tried(240, 31), 99);
+        x.place(15, 1, 1);
+        x.constable(0, 1);
+        x.constable(7, 15);
+        Due.law(x, "wp(1=1)");
+        due.is("tried(1, 10)", x.tried(1, 10), 1);
+        due.is("tried(1, 17)", x.tried(1, 17), 15);
+        due.is("tried(1, 20)", x.tried(1, 20), 1);
+        due.is("tried(1, 27)", x.tried(1, 27), 15);
+        due.is("tried(1, 45)", x.tried(1, 45), 0);
     }
 
     private static void placeIsAndSince() {

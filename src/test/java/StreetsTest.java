@@ -49,6 +49,7 @@ public final class StreetsTest {
         due.is("not told, first", x.ways(8, 0), -1);
         due.is("no such", x.ways(-1, 0), -1);
         due.is("no such above", x.ways(0, 16), -1);
+        due.is("not all of a row lead on", town(5, "ab ac bd be").ways(0, 3), 1);
         due.promise("promise 22");
         int[] row = {0, 1, 3, 4, 6};
         int[] back = {6, 4, 3, 1, 0};
@@ -90,6 +91,10 @@ public final class StreetsTest {
         due.is("the greatest", x.worst(), 12);
         Due.pleas(x, "m-2");
         due.is("then", x.worst(), 3);
+        x.place(0, 61, 1);
+        due.is("the first", x.worst(), 0);
+        x.place(15, 62, 1);
+        due.is("the last", x.worst(), 15);
     }
 
     private static void fewestPosts() {
@@ -150,6 +155,16 @@ public final class StreetsTest {
         due.is("without what tempts not", x.round(1, 8, 1), 0x1B);
         due.is("over it", x.round(2, 4, 1), 7);
         due.is("nothing else near", x.round(2, 1, 1), 4);
+        x = town(5, "de dc cb");
+        x.place(1, 10, 0);
+        x.place(2, 0, 0);
+        x.place(3, 0, 0);
+        x.place(4, 10, 0);
+        due.is("the least bits lie farther off", x.round(3, 4, 1), 14);
+        x.place(4, 11, 0);
+        due.is("one more", x.round(3, 4, 1), 24);
+        x.place(1, 12, 0);
+        due.is("one more yet", x.round(3, 4, 1), 14);
     }
 
     private static void roundsInFull() {
@@ -245,6 +260,10 @@ public final class StreetsTest {
         due.is("c, steps", x.nearest(2, 1), 2);
         due.is("there", x.nearest(4, 1), 0);
         due.is("nobody can come", x.nearest(5, 1), -2);
+        x.constable(7, 5);
+        due.is("the last", x.nearest(5, 0), 7);
+        x.constable(0, 5);
+        due.is("the first", x.nearest(5, 0), 0);
         due.is("what 2", x.nearest(0, 2), -1);
         due.is("what -1", x.nearest(0, -1), -1);
         due.is("not told", x.nearest(6, 0), -1);

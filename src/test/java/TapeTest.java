@@ -71,6 +71,7 @@ public final class TapeTest {
         due.is("behind what is asked", x.alibis(1, 0, 0), 1);
         Due.bytes(x, 0, 0, 0, 0);
         due.is("not so many", x.alibis(6, 0, 0), -1);
+        due.is("just so many", x.alibis(5, 0, 0), 31);
     }
 
     private static void isBench(int n, int m, int first, int fewest, int alike, int... rankings) {
@@ -165,6 +166,7 @@ public final class TapeTest {
         due.is("the tape stays", x.count(7), 20);
         due.is("the first", x.share(1, 0), 5);
         Due.bytes(x, 9, 3, 9, 3, 9, 3, 9, 3, 9, 3, 9, 3, 9, 3, 9, 3, 9, 3, 9, 3, 9, 3, 9, 3);
+        due.is("n 13, though there are so many", x.share(13, 0), -1);
         due.is("n 12", x.share(12, 0), 60);
     }
 

@@ -192,6 +192,7 @@ public final class TellingTest {
         for (int i = 0; i < 13; i++) {
             x.feed(0, 0, 0, 0, 0);
         }
+        due.is("law(241) of 260", x.law(241), -1);
         due.is("law(240) of 260", x.law(240), -1000);
         due.is("all are gone", x.count(7), 0);
     }
@@ -237,12 +238,12 @@ public final class TellingTest {
         }
         due.is("49 letters", Due.beat(x, 0, Due.times(49, "a", "")), -6048);
         due.is("60 of them, the last can't stand", Due.beat(x, 0, Due.times(48, "a", "") + "q"), -1048);
-        Due.text(x, Due.times(3, "aaaaaaaaaaaaaaaaaaaa", ""));
+        Due.text(x, Due.times(4, "aaaaaaaaaaaaaaaaaaaa", ""));
         due.is("beat(8)", x.beat(8, 1), -1);
         due.is("beat(-1)", x.beat(-1, 1), -1);
         due.is("beat(0, 0)", x.beat(0, 0), -1);
         due.is("beat(0, 61)", x.beat(0, 61), -1);
-        due.is("the tape stays", x.count(7), 60);
+        due.is("the tape stays", x.count(7), 80);
         due.is("beat(0, 60)", x.beat(0, 60), -6048);
         due.is("not so many", x.beat(0, 1), -1);
     }
@@ -260,6 +261,8 @@ public final class TellingTest {
         due.is("bounds, one behind the other", Due.pleas(x, "a+99;a-9;b-99;b+3"), 4);
         due.is("at most", x.placeIs(0, 0), 90);
         due.is("at least", x.placeIs(1, 0), 3);
+        due.is("0 stays 0", Due.pleas(x, "b-9;b+0"), 2);
+        due.is("0", x.placeIs(1, 0), 0);
         due.is("gravity", Due.pleas(x, "a=7;b=999;p=000"), 3);
         due.is("gravity a", x.placeIs(0, 1), 7);
         due.is("gravity b", x.placeIs(1, 1), 999);
