@@ -1,3 +1,5 @@
+import java.util.function.IntUnaryOperator;
+
 /** What the tests share: answers that are due, and texts fed to a tape. */
 final class Due {
     private int wrong = 0;
@@ -18,6 +20,19 @@ final class Due {
 
     void is(String call, boolean got, boolean want) {
         is(call, got ? 1 : 0, want ? 1 : 0);
+    }
+
+    void is(String call, String got, String want) {
+        is(call + " (" + got + " for " + want + ")", got.equals(want), true);
+    }
+
+    /** The last values that are taken, and what is beyond them on both sides. */
+    void bounds(String call, IntUnaryOperator ask, int least, int atLeast, int most, int atMost, int beyond) {
+        is(call + " of " + least, ask.applyAsInt(least), atLeast);
+        is(call + " of " + most, ask.applyAsInt(most), atMost);
+        for (int other : new int[] {least - 1, most + 1, Integer.MIN_VALUE, Integer.MAX_VALUE}) {
+            is(call + " of " + other, ask.applyAsInt(other), beyond);
+        }
     }
 
     /** Ends the test. */
@@ -66,6 +81,17 @@ final class Due {
     static int pleas(IdleCrimes x, String text) {
         text(x, text);
         return x.pleas(text.length());
+    }
+
+    /** A fresh object with the tape of a text. */
+    static IdleCrimes fed(String text) {
+        IdleCrimes x = new IdleCrimes();
+        text(x, text);
+        return x;
+    }
+
+    static int bit(boolean good) {
+        return good ? 1 : 0;
     }
 
     static String times(int n, String text, String between) {
