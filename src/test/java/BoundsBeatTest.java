@@ -16,6 +16,7 @@ public final class BoundsBeatTest {
         bytesAre60AtMost();
         constablesToldOrNot();
         overAndOverByTheHour();
+        soManyOfIt();
         theEndCantStandThere();
         aThirdBracket();
         moreThan48AtWhatMakesThemSo();
@@ -189,6 +190,30 @@ public final class BoundsBeatTest {
         Due.beat(x, 0, "..b");
         due.is("THE HOUR goes on where the beat is new", x.tried(2, 10), 0);
         due.is("its third step at THE HOUR 5", x.tried(3, 10), 1);
+    }
+
+    /** Where he is behind each of so many HOURS. */
+    private static void walk(String beat, String places) {
+        IdleCrimes x = line();
+        due.is(beat, Due.beat(x, 0, beat), places.length());
+        for (int h = 0; h < places.length(); h++) {
+            x.hours(1);
+            due.is(beat + " behind " + (h + 1), x.constableIs(0, 0), places.charAt(h) - 'a');
+        }
+    }
+
+    private static void soManyOfIt() {
+        due.promise("so many of it, so many times: the same STEPS once more");
+        walk("bcd", "bcd");
+        walk("3bc", "bbbc");
+        walk("b2.a", "bbba");
+        walk("2(bcda)b", "bcdabcdab");
+        walk("3(bc)d", "bcbcbcd");
+        walk("b2(2(ab).)c", "bababbababbc");
+        walk("(b)(c)d", "bcd");
+        walk("2((bc)2(da))", "bcdadabcdada");
+        walk("9(2(ba)b)a", Due.times(9, "babab", "") + "a");
+        walk("6(bcdabcda)", Due.times(6, "bcdabcda", ""));
     }
 
     private static void theEndCantStandThere() {

@@ -372,6 +372,10 @@ public final class BoundsHoursTest {
         test("7%[0-2]=1", true);
         test("[0-1]/2=0", true);
         test("1/2=0", true);
+        test("7/1=7", true);
+        test("7%1=0", true);
+        test("7/7=1", true);
+        test("7%7=0", true);
         test("0/5=0", true);
         test("0%5=0", true);
     }
@@ -389,7 +393,11 @@ public final class BoundsHoursTest {
         test("20-2*3=14", true);
         test("1<2", true);
         test("2<2", false);
+        test("3<2", false);
         test("2>2", false);
+        test("2>3", false);
+        test("2=3", false);
+        test("3=2", false);
         test("3>2", true);
         test("2=2", true);
         test("!!1=1", true);
@@ -500,6 +508,11 @@ public final class BoundsHoursTest {
                 due.is("what " + what, x.tried(5, what), want);
             }
         }
+        IdleCrimes z = town(2);
+        z.constable(0, 1);
+        due.is("since at a, the lowest what", z.tried(5, 30), 5);
+        due.is("his wage, the lowest what", z.tried(5, 20), 0);
+        due.is("his place, the lowest what", z.tried(5, 10), 1);
         IdleCrimes y = new IdleCrimes();
         for (int what = 10; what < 46; what++) {
             due.is("not told " + what, y.tried(1, what), -1);

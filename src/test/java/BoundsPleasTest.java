@@ -116,6 +116,10 @@ public final class BoundsPleasTest {
         due.is("0 - 99", temptation(0, "a-99"), 0);
         due.is("99 - 99", temptation(99, "a-99"), 0);
         due.is("99 - 98", temptation(99, "a-98"), 1);
+        due.is("0 + 0", temptation(0, "a+0"), 0);
+        due.is("0 - 0", temptation(0, "a-0"), 0);
+        due.is("99 + 0", temptation(99, "a+0"), 99);
+        due.is("99 - 0", temptation(99, "a-0"), 99);
         due.is("7 + 0", temptation(7, "a+0"), 7);
         due.is("7 - 00", temptation(7, "a-00"), 7);
         due.is("7 + 01", temptation(7, "a+01"), 8);

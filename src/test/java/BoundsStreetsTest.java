@@ -26,6 +26,7 @@ public final class BoundsStreetsTest {
         watchesBounds();
         watchesEmptyAndFull();
         watchesAreTheLeastRow();
+        watchesOfOtherLanes();
         nearestBounds();
         nearestOfLikeOnes();
         countBounds();
@@ -190,6 +191,10 @@ public final class BoundsStreetsTest {
         due.is("the lowest of them", x.worst(), 14);
         x.place(0, 98, 999);
         due.is("one less", x.worst(), 14);
+        x.place(0, 99, 999);
+        due.is("a, the lowest of all", x.worst(), 0);
+        x.place(0, 99, 998);
+        due.is("a no longer", x.worst(), 14);
     }
 
     // ---- posts
@@ -390,6 +395,25 @@ public final class BoundsStreetsTest {
         isRow("ab bc ca ad bd cd", 0, 1, 2, 3);
         isRow("ab cd ef gh ij kl mn op", 0, 1, 0, 1, 0, 1, 0, 1, 0, 1, 0, 1, 0, 1, 0, 1);
         isRow("be bf ce cg df dg ae af ag", 0, 0, 0, 0, 1, 1, 1);
+    }
+
+    private static void watchesOfOtherLanes() {
+        due.promise("WATCHES as the lanes are now");
+        IdleCrimes x = town(3, "");
+        due.is("alone", x.watches(2), 0);
+        Due.pleas(x, "a&b;b&c");
+        due.is("in a row, how many", x.watches(100), 2);
+        due.is("in a row, b", x.watches(1), 1);
+        due.is("in a row, c", x.watches(2), 0);
+        Due.pleas(x, "c&a");
+        due.is("in a ring, c", x.watches(2), 2);
+        due.is("in a ring, b", x.watches(1), 1);
+        due.is("in a ring, how many", x.watches(100), 3);
+        Due.pleas(x, "a/b;b/c;c/a");
+        due.is("alone again, how many", x.watches(100), 1);
+        due.is("alone again", x.watches(1), 0);
+        x.place(15, 1, 1);
+        due.is("one more", x.watches(15), 0);
     }
 
     // ---- nearest

@@ -128,6 +128,8 @@ public final class BoundsTapeTest {
         due.is("just so far", with(row(3), 0, 7, 2, 9).alibis(1, 0, 7), 1);
         due.is("just so far, asked there", with(row(3), 0, 7, 2, 9).alibis(1, 2, 9), 1);
         due.is("255 ahead of 0", with(row(1), 0, 255, 0, 0).alibis(1, 0, 0), 0);
+        due.is("each by his own hours", with(row(3), 0, 9, 2, 11, 2, 7, 0, 9, 0, 8, 0, 12, 1, 0, 1, 7).alibis(4, 1, 8), 0b0010);
+        due.is("each by his own hours, later", with(row(3), 0, 9, 2, 11, 2, 7, 0, 9, 0, 8, 0, 12, 1, 0, 1, 7).alibis(4, 1, 10), 0b0101);
         due.is("bits of those who could", with(row(3), 0, 7, 2, 8, 0, 7, 2, 9, 0, 9, 0, 7, 1, 0, 1, 255).alibis(4, 1, 8), 0b1010);
     }
 
@@ -273,6 +275,8 @@ public final class BoundsTapeTest {
 
     private static void likelyOfLikeOnes() {
         due.promise("the greatest product; whose (of like ones the lowest)");
+        due.is("the first", with(new IdleCrimes(), 9, 9, 5, 5, 1, 1).likely(3, 2), 0);
+        due.is("the one between", with(new IdleCrimes(), 5, 5, 9, 9, 1, 1).likely(3, 2), 1);
         due.is("of like ones", with(new IdleCrimes(), 1, 1, 2, 6, 6, 2, 3, 4).likely(4, 2), 1);
         due.is("the last", with(new IdleCrimes(), 1, 1, 2, 6, 6, 2, 1, 13).likely(4, 2), 3);
         due.is("all of 0", with(new IdleCrimes(), 0, 0, 0, 0).likely(2, 2), 0);
