@@ -714,8 +714,9 @@ public final class IdleCrimes {
             reader++;
         }
 
+        /** Behind a FAULT nothing is taken any more. */
         boolean take(int sign) {
-            if (look() != sign) {
+            if (!isFine() || look() != sign) {
                 fail(CANNOT_STAND);
                 return false;
             }
@@ -744,10 +745,7 @@ public final class IdleCrimes {
 
         /** Whether a ; stands there, which one more must follow; else the text must be at its end. */
         boolean goesOn() {
-            if (!isFine() || look() == END) {
-                return false;
-            }
-            return take(';');
+            return look() != END && take(';');
         }
 
         boolean isFine() {
@@ -910,9 +908,7 @@ public final class IdleCrimes {
             }
             text.step();
             items(text, open + 1);
-            if (text.isFine()) {
-                text.take(')');
-            }
+            text.take(')');
         }
 
         /** The STEPS from one on so many times more. */
@@ -1067,18 +1063,12 @@ public final class IdleCrimes {
                 sum(text, 0);
             }
             put(claims, rules, size);
-            if (text.isFine() && text.take('(')) {
+            if (text.take('(')) {
                 anyOf(text, 1);
-                close(text, ')');
+                text.take(')');
             }
             put(ends, rules, size);
             rules++;
-        }
-
-        private static void close(Tape text, int sign) {
-            if (text.isFine()) {
-                text.take(sign);
-            }
         }
 
         /** Whether one more of ( [ ! can be opened in so many; it is stepped over. */
@@ -1121,7 +1111,7 @@ public final class IdleCrimes {
             } else if (sign == '(') {
                 if (opens(text, open)) {
                     anyOf(text, open + 1);
-                    close(text, ')');
+                    text.take(')');
                 }
             } else {
                 sum(text, open);
@@ -1167,7 +1157,7 @@ public final class IdleCrimes {
             if (sign == '[') {
                 if (opens(text, open)) {
                     sum(text, open + 1);
-                    close(text, ']');
+                    text.take(']');
                 }
             } else if (Tape.isDigit(sign)) {
                 order(NUMBER, text.number(MOST_DIGITS));

@@ -1,3 +1,4 @@
+import java.util.Arrays;
 import java.util.function.IntUnaryOperator;
 
 /** What the tests share: answers that are due, and texts fed to a tape. */
@@ -57,6 +58,13 @@ final class Due {
             int[] five = fives(bytes, from);
             x.feed(five[0], five[1], five[2], five[3], five[4]);
         }
+    }
+
+    /** So many bytes, all alike. */
+    static int[] bytesOf(int many, int value) {
+        int[] bytes = new int[many];
+        Arrays.fill(bytes, value);
+        return bytes;
     }
 
     static int[] fives(int[] bytes, int from) {
